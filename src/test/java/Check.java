@@ -1,0 +1,48 @@
+import java.util.concurrent.Callable;
+
+/** What the tests share: it prints each answer that is not due, and counts. */
+final class Check {
+    private static int checks = 0;
+    private static int wrong = 0;
+
+    private Check() {
+    }
+
+    static void due(String what, long got, long want) {
+        checks++;
+        if (got != want) {
+            wrong++;
+            System.out.println(what + " answered " + got + ", due is " + want);
+        }
+    }
+
+    static void dueText(String what, String got, String want) {
+        checks++;
+        if (!got.equals(want)) {
+            wrong++;
+            System.out.println(what + " answered " + got + ", due is " + want);
+        }
+    }
+
+    /** The call must throw this very exception, not one of a class below it. */
+    static void dueThrow(String what, Callable<?> call, Class<?> want) {
+        String got = answer(call);
+        dueText(what, got, "throws." + want.getSimpleName());
+    }
+
+    /** What a call answers, as a text. */
+    static String answer(Callable<?> call) {
+        try {
+            return String.valueOf(call.call());
+        } catch (Exception e) {
+            return "throws." + e.getClass().getSimpleName();
+        }
+    }
+
+    static void end(String test) {
+        System.out.println(test + ": " + checks + " checks, " + wrong + " wrong");
+        if (wrong != 0 || checks == 0) {
+            System.exit(1);
+        }
+    }
+}
