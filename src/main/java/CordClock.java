@@ -456,7 +456,7 @@ public final class CordClock {
             lastOut = other.lastOut;
         }
 
-        // A cord's object is used again after an undo: what it held before must not be seen.
+        // The objects of cords are used again, so a new cord must not rest on what was in its object.
         void clear() {
             segments = 0;
             time = 0;

@@ -24,6 +24,7 @@ public final class PromiseTest {
         execute();
         executeInPart();
         undo();
+        undoOfEachMethod();
         keep();
         goBack();
         cordOf();
@@ -411,6 +412,37 @@ public final class PromiseTest {
         Check.due("step", clock.count(0), 11);
     }
 
+    private static void undoOfEachMethod() {
+        CordClock clock = clockOf("new:4.5;new:2;when:1,0L;lit:0R;lit:1R;run:1");
+        clock.keep(1);
+        String[] states = {Ask.state(clock), "", "", "", "", ""};
+        clock.run(1);
+        states[1] = Ask.state(clock);
+        clock.renew(1);
+        states[2] = Ask.state(clock);
+        clock.uneven(1, 0, 9);
+        states[3] = Ask.state(clock);
+        clock.cord(3, 6);
+        states[4] = Ask.state(clock);
+        Ask.execute(clock, "lit:2R;lit:1L;run:30;when:2,1L");
+        states[5] = Ask.state(clock);
+        clock.goBack(1);
+        Check.dueText("the snapshot", Ask.state(clock), states[0]);
+        for (int i = 5; i >= 0; i--) {
+            clock.undo();
+            Check.dueText("undone to " + i, Ask.state(clock), states[i]);
+        }
+        clock.light(0, true);
+        clock.putOut(0, true);
+        clock.dropRules();
+        clock.rule(0, 1, false);
+        Check.due("saved", clock.count(10), 4);
+        for (int i = 0; i < 4; i++) {
+            clock.undo();
+        }
+        Check.dueText("undone", Ask.state(clock), states[0]);
+    }
+
     private static void keep() {
         CordClock clock = clockOf("new:9;lit:0L;run:2");
         for (int wrong : new int[] {2, -1, LOW, HIGH}) {
@@ -692,6 +724,12 @@ public final class PromiseTest {
         Check.dueThrow("no such cord", () -> one.tellable(2, 0), ARGUMENT);
         Check.dueThrow("no such cord", () -> one.tellable(3, 0), ARGUMENT);
         told(one, 1, 1);
+        CordClock longest = clockOf("new:60.60.60.60.60.60;new:60.60.60.60.60.60");
+        longest.cord(6, 60);
+        told(longest, 2, 180, 360);
+        int last = longest.tellable(7, CordClock.NONE) - 1;
+        Check.due("the greatest time", longest.tellable(7, last), 1080);
+        Check.due("behind it", longest.tellable(7, last + 1), CordClock.NONE);
     }
 
     private static void fewestFlames() {
