@@ -3,9 +3,21 @@ final class Ask {
     static final int NUMBERS_OF_A_CORD = 8;
     static final int NUMBERS_OF_A_RULE = 4;
     static final int COUNTS = 12;
+    static final int LOW = Integer.MIN_VALUE;
+    static final int HIGH = Integer.MAX_VALUE;
     private static final int SAVED_STATES = 10;
+    private static final int LONG_TEXT = 99;
 
     private Ask() {
+    }
+
+    /** A clock that has executed some order texts, each by one call. */
+    static CordClock clockOf(String... texts) {
+        CordClock clock = new CordClock();
+        for (String text : texts) {
+            execute(clock, text);
+        }
+        return clock;
     }
 
     static void type(CordClock clock, String text) {
@@ -29,7 +41,7 @@ final class Ask {
 
     static String entry(CordClock clock, int ago) {
         StringBuilder text = new StringBuilder();
-        for (int i = 0; clock.entry(ago, i) != CordClock.NONE; i++) {
+        for (int i = 0; i < LONG_TEXT && clock.entry(ago, i) != CordClock.NONE; i++) {
             text.append((char) clock.entry(ago, i));
         }
         return text.toString();

@@ -1,18 +1,25 @@
 import java.util.concurrent.Callable;
+import java.util.function.IntFunction;
 
 /** What the tests share: it prints each answer that is not due, and counts. */
 final class Check {
     private static int checks = 0;
     private static int wrong = 0;
+    private static String about = "";
 
     private Check() {
+    }
+
+    /** What the checks from here on are about, put in front of what they print. */
+    static void about(String words) {
+        about = words;
     }
 
     static void due(String what, long got, long want) {
         checks++;
         if (got != want) {
             wrong++;
-            System.out.println(what + " answered " + got + ", due is " + want);
+            System.out.println(about + what + " answered " + got + ", due is " + want);
         }
     }
 
@@ -20,7 +27,7 @@ final class Check {
         checks++;
         if (!got.equals(want)) {
             wrong++;
-            System.out.println(what + " answered " + got + ", due is " + want);
+            System.out.println(about + what + " answered " + got + ", due is " + want);
         }
     }
 
@@ -28,6 +35,13 @@ final class Check {
     static void dueThrow(String what, Callable<?> call, Class<?> want) {
         String got = answer(call);
         dueText(what, got, "throws." + want.getSimpleName());
+    }
+
+    /** The call must throw this very exception for each of the wrong numbers. */
+    static void dueThrows(String what, IntFunction<?> call, Class<?> want, int... wrongs) {
+        for (int number : wrongs) {
+            dueThrow(what + " " + number, () -> call.apply(number), want);
+        }
     }
 
     /** What a call answers, as a text. */

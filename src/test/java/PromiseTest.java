@@ -3,8 +3,8 @@ public final class PromiseTest {
     private static final Class<?> INDEX = IndexOutOfBoundsException.class;
     private static final Class<?> ARGUMENT = IllegalArgumentException.class;
     private static final Class<?> STATE = IllegalStateException.class;
-    private static final int LOW = Integer.MIN_VALUE;
-    private static final int HIGH = Integer.MAX_VALUE;
+    private static final int LOW = Ask.LOW;
+    private static final int HIGH = Ask.HIGH;
 
     public static void main(String[] args) {
         newObject();
@@ -41,12 +41,6 @@ public final class PromiseTest {
         burned();
         wrongCallsChangeNothing();
         Check.end("PromiseTest");
-    }
-
-    private static CordClock clockOf(String orders) {
-        CordClock clock = new CordClock();
-        Ask.execute(clock, orders);
-        return clock;
     }
 
     // ---- promise 1
@@ -95,7 +89,7 @@ public final class PromiseTest {
     // ---- promise 3
 
     private static void uneven() {
-        CordClock clock = clockOf("new:5.6.7;new:8");
+        CordClock clock = Ask.clockOf("new:5.6.7;new:8");
         Check.dueThrow("cord", () -> clock.uneven(2, 0, 1), INDEX);
         Check.dueThrow("cord", () -> clock.uneven(-1, 0, 1), INDEX);
         Check.dueThrow("cord", () -> clock.uneven(HIGH, 0, 0), INDEX);
@@ -126,7 +120,7 @@ public final class PromiseTest {
     // ---- promise 4
 
     private static void renew() {
-        CordClock clock = clockOf("new:5.6;lit:0L;lit:0R;run:3");
+        CordClock clock = Ask.clockOf("new:5.6;lit:0L;lit:0R;run:3");
         Check.dueThrow("cord", () -> clock.renew(1), INDEX);
         Check.dueThrow("cord", () -> clock.renew(-1), INDEX);
         Check.due("burned", clock.renew(0), 6);
@@ -150,7 +144,7 @@ public final class PromiseTest {
     // ---- promise 5
 
     private static void light() {
-        CordClock clock = clockOf("new:2;new:9");
+        CordClock clock = Ask.clockOf("new:2;new:9");
         Check.dueThrow("cord", () -> clock.light(2, true), INDEX);
         Check.dueThrow("cord", () -> clock.light(LOW, true), INDEX);
         Check.due("flames", clock.light(0, true), 1);
@@ -172,7 +166,7 @@ public final class PromiseTest {
     // ---- promise 6
 
     private static void putOut() {
-        CordClock clock = clockOf("new:9;new:9;lit:0L;lit:0R;lit:1L;run:2");
+        CordClock clock = Ask.clockOf("new:9;new:9;lit:0L;lit:0R;lit:1L;run:2");
         Check.dueThrow("cord", () -> clock.putOut(2, true), INDEX);
         Check.dueThrow("cord", () -> clock.putOut(-1, true), INDEX);
         Check.dueThrow("no flame", () -> clock.putOut(1, false), STATE);
@@ -194,7 +188,7 @@ public final class PromiseTest {
     // ---- promise 7
 
     private static void rule() {
-        CordClock clock = clockOf("new:9;new:9");
+        CordClock clock = Ask.clockOf("new:9;new:9");
         Check.dueThrow("cord", () -> clock.rule(0, 2, true), INDEX);
         Check.dueThrow("cord", () -> clock.rule(2, 0, true), INDEX);
         Check.dueThrow("cord", () -> clock.rule(-1, 0, true), INDEX);
@@ -216,7 +210,7 @@ public final class PromiseTest {
     // ---- promise 8
 
     private static void dropRules() {
-        CordClock clock = clockOf("new:1;new:9;when:0,1L;lit:0L;run:1");
+        CordClock clock = Ask.clockOf("new:1;new:9;when:0,1L;lit:0L;run:1");
         Check.due("lit", clock.ruleOf(0, 3), 1);
         Check.due("dropped", clock.dropRules(), 1);
         Check.due("rules", clock.count(2), 0);
@@ -234,7 +228,7 @@ public final class PromiseTest {
     // ---- promise 9
 
     private static void run() {
-        CordClock clock = clockOf("new:3.2;new:4;lit:0L;lit:0R;lit:1R");
+        CordClock clock = Ask.clockOf("new:3.2;new:4;lit:0L;lit:0R;lit:1R");
         for (int wrong : new int[] {0, 201, -1, LOW, HIGH}) {
             Check.dueThrow("steps", () -> clock.run(wrong), ARGUMENT);
         }
@@ -252,14 +246,14 @@ public final class PromiseTest {
         Check.due("saved", clock.count(10), 4);
         clock.undo();
         Check.due("as one call", clock.count(0), 3);
-        CordClock both = clockOf("new:3;new:3;lit:1L;lit:0R;run:2");
+        CordClock both = Ask.clockOf("new:3;new:3;lit:1L;lit:0R;run:2");
         Check.due("two signals in a step", both.run(1), 2);
         Check.dueText("ascending", Ask.entry(both, 0) + Ask.entry(both, 1), "out 1@3out 0@3");
         Check.due("no more signals", both.run(5), 0);
     }
 
     private static void runWithRules() {
-        CordClock clock = clockOf("new:2;new:2;new:9;when:0,1R;lit:0L;lit:1L");
+        CordClock clock = Ask.clockOf("new:2;new:2;new:9;when:0,1R;lit:0L;lit:1L");
         Ask.execute(clock, "when:1,2R;when:0,2R;when:0,2L;when:0,2L");
         Check.due("signals", clock.run(2), 2);
         Check.due("not out by this very step", clock.ruleOf(0, 3), 0);
@@ -373,7 +367,7 @@ public final class PromiseTest {
         Check.due("five cords", Ask.execute(clock, "new:1;new:1;new:1;new:1;new:1;run:1"), 4);
         Check.due("nothing behind it", clock.count(0), 0);
         Check.due("buffer", clock.count(11), 0);
-        CordClock other = clockOf("new:1;new:2");
+        CordClock other = Ask.clockOf("new:1;new:2");
         Check.due("no such cord", Ask.execute(other, "lit:2L;run:1"), 0);
         Check.due("saved all the same", other.count(10), 2);
         Check.due("flame there", Ask.execute(other, "lit:0L;lit:0L"), 1);
@@ -413,7 +407,7 @@ public final class PromiseTest {
     }
 
     private static void undoOfEachMethod() {
-        CordClock clock = clockOf("new:4.5;new:2;when:1,0L;lit:0R;lit:1R;run:1");
+        CordClock clock = Ask.clockOf("new:4.5;new:2;when:1,0L;lit:0R;lit:1R;run:1");
         clock.keep(1);
         String[] states = {Ask.state(clock), "", "", "", "", ""};
         clock.run(1);
@@ -444,7 +438,7 @@ public final class PromiseTest {
     }
 
     private static void keep() {
-        CordClock clock = clockOf("new:9;lit:0L;run:2");
+        CordClock clock = Ask.clockOf("new:9;lit:0L;run:2");
         for (int wrong : new int[] {2, -1, LOW, HIGH}) {
             Check.dueThrow("slot", () -> clock.keep(wrong), ARGUMENT);
         }
@@ -468,7 +462,7 @@ public final class PromiseTest {
     }
 
     private static void goBack() {
-        CordClock clock = clockOf("new:9.2;lit:0R;run:4");
+        CordClock clock = Ask.clockOf("new:9.2;lit:0R;run:4");
         for (int wrong : new int[] {2, -1, LOW, HIGH}) {
             Check.dueThrow("slot", () -> clock.goBack(wrong), ARGUMENT);
         }
@@ -501,7 +495,7 @@ public final class PromiseTest {
     }
 
     private static void cordOf() {
-        CordClock clock = clockOf("new:4.5.6;new:3;lit:0L;lit:1R;run:2;lit:0R;run:1");
+        CordClock clock = Ask.clockOf("new:4.5.6;new:3;lit:0L;lit:1R;run:2;lit:0R;run:1");
         numbersOf(clock, 0, 15, 3, 3, 1, 11, 3, 0, -1);
         numbersOf(clock, 1, 3, 1, 0, 3, 0, 0, 1, 3);
         clock.renew(1);
@@ -519,7 +513,7 @@ public final class PromiseTest {
     }
 
     private static void segment() {
-        CordClock clock = clockOf("new:4.5.6;new:3");
+        CordClock clock = Ask.clockOf("new:4.5.6;new:3");
         Check.due("segment", clock.segment(0, 0), 4);
         Check.due("segment", clock.segment(0, 2), 6);
         Check.due("segment", clock.segment(1, 0), 3);
@@ -535,7 +529,7 @@ public final class PromiseTest {
     }
 
     private static void front() {
-        CordClock clock = clockOf("new:2.1.3");
+        CordClock clock = Ask.clockOf("new:2.1.3");
         Check.dueThrow("cord", () -> clock.front(1, true), INDEX);
         Check.dueThrow("cord", () -> clock.front(-1, true), INDEX);
         Check.due("without a flame", clock.front(0, true), 0);
@@ -558,7 +552,7 @@ public final class PromiseTest {
     }
 
     private static void ruleOf() {
-        CordClock clock = clockOf("new:1;new:9;when:1,0L;when:0,1R;lit:0L;run:1");
+        CordClock clock = Ask.clockOf("new:1;new:9;when:1,0L;when:0,1R;lit:0L;run:1");
         int[][] want = {{1, 0, 1, 0}, {0, 1, 0, 1}};
         for (int rule = 0; rule < 2; rule++) {
             for (int what = 0; what < Ask.NUMBERS_OF_A_RULE; what++) {
@@ -579,7 +573,7 @@ public final class PromiseTest {
     }
 
     private static void count() {
-        CordClock clock = clockOf("new:2;new:3;new:9;when:0,2L;lit:0L;lit:1R;run:3");
+        CordClock clock = Ask.clockOf("new:2;new:3;new:9;when:0,2L;lit:0L;lit:1R;run:3");
         clock.append('n');
         clock.renew(1);
         int[] want = {3, 3, 1, 1, 1, 2, 3, 3, 0, 5, 2, 1};
@@ -601,7 +595,7 @@ public final class PromiseTest {
     }
 
     private static void gaps() {
-        CordClock clock = clockOf("new:2;run:3");
+        CordClock clock = Ask.clockOf("new:2;run:3");
         Check.due("the gap that lasts", clock.count(8), 3);
         clock.run(2);
         Check.due("goes on", clock.count(8), 5);
@@ -621,7 +615,7 @@ public final class PromiseTest {
     }
 
     private static void entry() {
-        CordClock clock = clockOf("new:60;new:60;new:60;lit:2R;run:15;lit:2L;run:100");
+        CordClock clock = Ask.clockOf("new:60;new:60;new:60;lit:2R;run:15;lit:2L;run:100");
         Check.dueText("latest", Ask.entry(clock, 0), "out 2@38");
         Check.dueText("before", Ask.entry(clock, 1), "lit L 2@15");
         Check.dueText("before", Ask.entry(clock, 2), "lit R 2@0");
@@ -650,7 +644,7 @@ public final class PromiseTest {
     // ---- promises 23 to 27
 
     private static void outIn() {
-        CordClock clock = clockOf("new:10;new:7;new:5;when:0,1L;when:0,1R;when:1,2L");
+        CordClock clock = Ask.clockOf("new:10;new:7;new:5;when:0,1L;when:0,1R;when:1,2L");
         Check.due("no flame", clock.outIn(0), CordClock.NONE);
         clock.light(0, true);
         String before = Ask.all(clock);
@@ -674,7 +668,7 @@ public final class PromiseTest {
     }
 
     private static void lasts() {
-        CordClock clock = clockOf("new:10.5;lit:0L;run:2");
+        CordClock clock = Ask.clockOf("new:10.5;lit:0L;run:2");
         for (int way = 0; way < 2; way++) {
             int told = way;
             Check.due("one flame", clock.lasts(0, 1, way), 13);
@@ -705,7 +699,7 @@ public final class PromiseTest {
     }
 
     private static void tellable() {
-        CordClock clock = clockOf("new:30.30;new:20.10.30;new:5;new:1");
+        CordClock clock = Ask.clockOf("new:30.30;new:20.10.30;new:5;new:1");
         Ask.execute(clock, "when:0,1L;lit:0L;lit:2L;run:3");
         told(clock, 0);
         told(clock, 8, 1);
@@ -720,11 +714,11 @@ public final class PromiseTest {
         }
         Check.dueThrow("rank", () -> clock.tellable(1, -2), ARGUMENT);
         Check.dueThrow("rank", () -> clock.tellable(1, LOW), ARGUMENT);
-        CordClock one = clockOf("new:1");
+        CordClock one = Ask.clockOf("new:1");
         Check.dueThrow("no such cord", () -> one.tellable(2, 0), ARGUMENT);
         Check.dueThrow("no such cord", () -> one.tellable(3, 0), ARGUMENT);
         told(one, 1, 1);
-        CordClock longest = clockOf("new:60.60.60.60.60.60;new:60.60.60.60.60.60");
+        CordClock longest = Ask.clockOf("new:60.60.60.60.60.60;new:60.60.60.60.60.60");
         longest.cord(6, 60);
         told(longest, 2, 180, 360);
         int last = longest.tellable(7, CordClock.NONE) - 1;
@@ -750,7 +744,7 @@ public final class PromiseTest {
         for (int wrong : new int[] {15, 16, -1, LOW, HIGH}) {
             Check.dueThrow("cords", () -> clock.fewestFlames(wrong, 1), ARGUMENT);
         }
-        CordClock burning = clockOf("new:4;new:4;lit:0L;run:3");
+        CordClock burning = Ask.clockOf("new:4;new:4;lit:0L;run:3");
         Check.due("as if new", burning.fewestFlames(1, 4), 1);
         Check.due("as if new", burning.fewestFlames(1, 1), CordClock.NONE);
         Check.due("cheapest of two ways", burning.fewestFlames(3, 4), 1);
@@ -783,7 +777,7 @@ public final class PromiseTest {
     // ---- "A call that throws an exception changes nothing."
 
     private static void wrongCallsChangeNothing() {
-        CordClock clock = clockOf("new:4.5;new:1;new:9;new:9;when:0,1L;lit:1L;run:3");
+        CordClock clock = Ask.clockOf("new:4.5;new:1;new:9;new:9;when:0,1L;lit:1L;run:3");
         Ask.type(clock, "new:1;");
         String before = Ask.all(clock);
         Check.dueThrow("cord", () -> clock.cord(1, 1), STATE);
