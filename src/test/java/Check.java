@@ -6,8 +6,26 @@ final class Check {
     private static int checks = 0;
     private static int wrong = 0;
     private static String about = "";
+    private static final long LONGEST_MILLIS = 300_000;
+
+    // A call that does not end must fail the run, not hold it up.
+    static {
+        Thread watch = new Thread(Check::stopLate);
+        watch.setDaemon(true);
+        watch.start();
+    }
 
     private Check() {
+    }
+
+    private static void stopLate() {
+        try {
+            Thread.sleep(LONGEST_MILLIS);
+        } catch (InterruptedException e) {
+            return;
+        }
+        System.out.println(about + "does not end");
+        Runtime.getRuntime().halt(1);
     }
 
     /** What the checks from here on are about, put in front of what they print. */
