@@ -773,13 +773,17 @@ public final class TermsEdgeTest {
     }
 
     private static void whicheverCordIsFirst() {
-        String[] orders = {"new:3;new:7;new:60", "new:3;new:60;new:7", "new:7;new:3;new:60", "new:7;new:60;new:3",
-            "new:60;new:3;new:7", "new:60;new:7;new:3"};
-        for (String order : orders) {
-            CordClock clock = Ask.clockOf(order);
-            Check.due("both ends of the cord of 7 at 2, " + order, clock.fewestFlames(7, 6), 4);
-            Check.due("two cords lit at 2, the longest one's other end at 9, " + order, clock.fewestFlames(7, 36), 5);
-            Check.due("one after the other, " + order, clock.fewestFlames(7, 70), 3);
+        int[][] orders = {{2, 4, 8}, {2, 8, 4}, {4, 2, 8}, {4, 8, 2}, {8, 2, 4}, {8, 4, 2}};
+        int[] lightings = {2, 1, 3, 1, 3, 2, 4, 1, 3, 2, 4, 2, 4, 3};
+        for (int[] times : orders) {
+            CordClock clock = new CordClock();
+            for (int time : times) {
+                clock.cord(1, time);
+            }
+            for (int i = 0; i < lightings.length; i++) {
+                Check.due("lightings for " + (i + 1), clock.fewestFlames(7, i + 1), lightings[i]);
+            }
+            told(clock, 7, 1, 2, 3, 4, 5, 6, 7, 8, 9, 10, 11, 12, 13, 14);
         }
     }
 
