@@ -22,8 +22,11 @@ public final class FaceTest {
 
     public static void main(String[] args) throws IOException {
         Path root = Path.of(args.length > 0 ? args[0] : ".");
-        face(Files.readString(root.resolve("../shared/DOC.md")));
-        source(Files.readString(root.resolve("src/main/java/CordClock.java")));
+        String document = Files.readString(root.resolve("../shared/DOC.md"));
+        String source = Files.readString(root.resolve("src/main/java/CordClock.java"));
+        face(document);
+        words(document, source);
+        source(source);
         inside();
         Check.end("FaceTest");
     }
@@ -32,36 +35,79 @@ public final class FaceTest {
         int start = document.indexOf("```java");
         String block = document.substring(start, document.indexOf("```\n", start + 7));
         Set<String> want = new TreeSet<>();
+        Set<String> constants = new TreeSet<>();
         for (String line : block.split("\n")) {
             if (line.startsWith("    public") && line.contains("(")) {
-                want.add(line.strip().replaceAll("( throws.*)?;", "").replaceAll("(\\w+) \\w+([,)])", "$1$2"));
+                want.add(line.strip().replaceAll(";", "").replaceAll("\\b(int|boolean) \\w+([,)])", "$1$2"));
+            } else if (line.startsWith("    public")) {
+                constants.add(line.strip());
             }
         }
+        Check.due("methods and constructors of the document", want.size(), 27);
+        Check.dueText("the face", methods().toString(), want.toString());
+        Check.dueText("the constants", constants().toString(), constants.toString());
+        Check.dueText("the class", Modifier.toString(CordClock.class.getModifiers()), "public final");
+        Check.due("the document's class", block.contains("\npublic final class CordClock {\n") ? 1 : 0, 1);
+    }
+
+    /** Constructors and methods that are not private, as the document writes them without the names of arguments. */
+    private static Set<String> methods() {
         Set<String> got = new TreeSet<>();
         for (Method method : CordClock.class.getDeclaredMethods()) {
             if (!Modifier.isPrivate(method.getModifiers()) && !method.isSynthetic()) {
                 got.add(Modifier.toString(method.getModifiers()) + " " + method.getReturnType() + " " + method.getName()
-                    + types(method.getParameterTypes()));
+                    + types(method.getParameterTypes()) + thrown(method.getExceptionTypes()));
             }
         }
         for (Constructor<?> constructor : CordClock.class.getDeclaredConstructors()) {
-            got.add(Modifier.toString(constructor.getModifiers()) + " CordClock" + types(constructor.getParameterTypes()));
+            got.add(Modifier.toString(constructor.getModifiers()) + " " + CordClock.class.getSimpleName()
+                + types(constructor.getParameterTypes()) + thrown(constructor.getExceptionTypes()));
         }
-        Check.due("methods and constructors of the document", want.size(), 27);
-        Check.dueText("the face", got.toString(), want.toString());
+        return got;
+    }
+
+    private static Set<String> constants() {
+        Set<String> got = new TreeSet<>();
         for (Field field : CordClock.class.getDeclaredFields()) {
-            boolean constant = field.getName().equals("NONE");
-            Check.due("private " + field.getName(), Modifier.isPrivate(field.getModifiers()) ? 1 : 0, constant ? 0 : 1);
+            if (!Modifier.isPrivate(field.getModifiers())) {
+                got.add(Modifier.toString(field.getModifiers()) + " " + field.getType() + " " + field.getName() + " = "
+                    + Check.answer(() -> field.get(null)) + ";");
+            }
         }
-        Check.dueText("the class", Modifier.toString(CordClock.class.getModifiers()), "public final");
+        return got;
     }
 
     private static String types(Class<?>[] types) {
-        StringBuilder text = new StringBuilder("(");
+        return "(" + names(types) + ")";
+    }
+
+    private static String thrown(Class<?>[] types) {
+        return types.length == 0 ? "" : " throws " + names(types);
+    }
+
+    private static String names(Class<?>[] types) {
+        StringBuilder text = new StringBuilder();
         for (int i = 0; i < types.length; i++) {
-            text.append(i > 0 ? ", " : "").append(types[i]);
+            text.append(i > 0 ? ", " : "").append(types[i].getSimpleName());
         }
-        return text.append(")").toString();
+        return text.toString();
+    }
+
+    /** Ahead of which calls the interface says what. */
+    private static void words(String document, String source) {
+        Matcher ahead = Pattern.compile("(?m)^Ahead of the calls (.*) the interface says: (.*)\\.$").matcher(document);
+        int found = 0;
+        while (ahead.find()) {
+            found++;
+            String words = "// " + ahead.group(2) + "\n";
+            String below = source.substring(source.indexOf(words) + 1).replaceAll("(?s)// ----.*", "");
+            Check.due("source with " + words.strip(), source.contains(words) ? 1 : 0, 1);
+            for (String call : ahead.group(1).replace("`", "").split(", ")) {
+                boolean stands = Pattern.compile("(?m)^    public \\w+ " + call + "\\(").matcher(below).find();
+                Check.due(call + " behind " + words.strip(), stands ? 1 : 0, 1);
+            }
+        }
+        Check.due("words of the interface", found, 5);
     }
 
     private static void source(String source) {
